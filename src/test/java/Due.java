@@ -1,0 +1,39 @@
+/** Compares answers with those that are due, and tells the ones that are not. */
+final class Due {
+    private static int wrong = 0;
+
+    private Due() {
+    }
+
+    interface Call {
+        Object answer();
+    }
+
+    static void is(String call, Object got, Object want) {
+        if (!want.equals(got)) {
+            wrong++;
+            System.out.println(call + " answered " + got + ", due is " + want);
+        }
+    }
+
+    /** The very class is due: each exception of the document is thrown by its own name. */
+    static void isThrown(String call, Class<? extends RuntimeException> want, Call made) {
+        is(call, outcome(made), "throws." + want.getSimpleName());
+    }
+
+    /** The answer of a call, or throws. and the name of what it throws. */
+    static Object outcome(Call made) {
+        try {
+            return made.answer();
+        } catch (RuntimeException thrown) {
+            return "throws." + thrown.getClass().getSimpleName();
+        }
+    }
+
+    static void end() {
+        if (wrong != 0) {
+            System.out.println(wrong + " answers are not as due");
+            System.exit(1);
+        }
+    }
+}
