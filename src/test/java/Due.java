@@ -26,8 +26,14 @@ final class Due {
         try {
             return made.answer();
         } catch (RuntimeException thrown) {
-            return "throws." + thrown.getClass().getSimpleName();
+            return (isThrownByHand(thrown) ? "throws." : "the library throws.") + thrown.getClass().getSimpleName();
         }
+    }
+
+    /** An exception of a list's own would bear the right name, but come from the library's code. */
+    private static boolean isThrownByHand(RuntimeException thrown) {
+        StackTraceElement[] trace = thrown.getStackTrace();
+        return trace.length > 0 && trace[0].getClassName().matches("(LanternDesk|Model)(\\$.*)?");
     }
 
     static void end() {

@@ -106,6 +106,13 @@ public final class StreetsTest {
         Due.is("vote(7, 2, 8)", desk.vote(7, 2, 8), 7);
         Due.is("vote(7, 0, 9)", desk.vote(7, 0, 9), 8);
         Due.is("vote(7, 0, 9) again", desk.vote(7, 0, 9), 8);
+        for (int street = 0; street < 8; street++) {
+            for (int voter = 0; voter < 3; voter++) {
+                LanternDesk fresh = new LanternDesk();
+                Due.is("one vote for 1 day", fresh.vote(street, voter, 1), 7);
+                Due.is("one vote for 30 days", fresh.vote(street, voter, 30), 7);
+            }
+        }
     }
 
     private static void middleOfAllVotes() {

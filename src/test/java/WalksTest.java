@@ -20,6 +20,7 @@ public final class WalksTest {
         lightsAndDark();
         passRefuses();
         night();
+        lastDay();
         complain();
         ranksHaveBounds();
         whatIsAskedOfNoWalk();
@@ -328,6 +329,19 @@ public final class WalksTest {
             Due.is("night()", desk.night(), 0);
         }
         Due.is("day()", desk.day(), 402);
+    }
+
+    /** The last day lies behind 512 calls, where the document leaves the answers free; the bound is kept there too. */
+    private static void lastDay() {
+        LanternDesk desk = new LanternDesk();
+        for (int i = 0; i < 1000; i++) {
+            desk.night();
+        }
+        Due.is("day()", desk.day(), 1000);
+        desk.pass(3);
+        Due.isThrown("night() at day 1000", STATE, desk::night);
+        Due.is("day()", desk.day(), 1000);
+        Due.is("minute()", desk.minute(), 3);
     }
 
     private static void complain() {
