@@ -1,6 +1,12 @@
 /** Compares answers with those that are due, and tells the ones that are not. */
 final class Due {
+    static final Class<IndexOutOfBoundsException> INDEX = IndexOutOfBoundsException.class;
+    static final Class<IllegalArgumentException> ARGUMENT = IllegalArgumentException.class;
+    static final Class<IllegalStateException> STATE = IllegalStateException.class;
+    private static final int MOST_TOLD = 100;
+
     private static int wrong = 0;
+    private static String sentence = "";
 
     private Due() {
     }
@@ -9,10 +15,22 @@ final class Due {
         Object answer();
     }
 
+    /** The answers from here on are due by this sentence under "Terms". */
+    static void term(String said) {
+        sentence = "[Terms: " + said + "] ";
+    }
+
+    /** The answers from here on are due by this sentence of a promise. */
+    static void promise(int number, String said) {
+        sentence = "[Promise " + number + ": " + said + "] ";
+    }
+
     static void is(String call, Object got, Object want) {
         if (!want.equals(got)) {
             wrong++;
-            System.out.println(call + " answered " + got + ", due is " + want);
+            if (wrong <= MOST_TOLD) {
+                System.out.println(sentence + call + " answered " + got + ", due is " + want);
+            }
         }
     }
 

@@ -1,23 +1,37 @@
+import java.io.IOException;
 import java.lang.reflect.Constructor;
 import java.lang.reflect.Field;
 import java.lang.reflect.Method;
 import java.lang.reflect.Modifier;
+import java.nio.charset.StandardCharsets;
+import java.nio.file.Files;
+import java.nio.file.Path;
 import java.util.Arrays;
 import java.util.TreeSet;
 
-/** The public face, to the letter, and rules 1 and 5 of LANGUAGE.md. */
+/** The public face, to the letter, and rules 1 and 5 of LANGUAGE.md; run in the project's root. */
 public final class FaceTest {
     private static final String INDEX = "IndexOutOfBoundsException";
     private static final String ARGUMENT = "IllegalArgumentException";
     private static final String STATE = "IllegalStateException";
+    private static final Path SOURCE = Path.of("src/main/java/LanternDesk.java");
+    /** What the interface says ahead of its calls, and the calls. */
+    private static final String[] INTERFACE = {
+        "---- streets", "pay", "setStreet", "vote",
+        "---- walks", "place", "ask", "pass", "night", "complain",
+        "---- what there is; nothing from here on changes anything", "day", "minute", "purse", "walks", "state",
+        "escortOf", "dark", "streetOf", "rank", "way",
+        "---- pictures", "pictures", "shows", "showsByPapers", "taken"
+    };
 
-    public static void main(String[] args) {
+    public static void main(String[] args) throws IOException {
         Due.is("the class's modifiers", LanternDesk.class.getModifiers(), Modifier.PUBLIC | Modifier.FINAL);
         Due.is("the class's package", LanternDesk.class.getPackageName(), "");
         Due.is("the methods", methods(), dueMethods());
         constructors();
         fields();
         nestedClasses();
+        sections(Files.readString(SOURCE, StandardCharsets.UTF_8));
         Due.end();
     }
 
@@ -89,6 +103,10 @@ public final class FaceTest {
         for (Method method : LanternDesk.class.getMethods()) {
             faces.add(method.getName());
         }
+        for (Method method : LanternDesk.class.getDeclaredMethods()) {
+            boolean isHidden = !Modifier.isPublic(method.getModifiers());
+            Due.is(method + " bears a public method's name", isHidden && faces.contains(method.getName()), false);
+        }
         Class<?>[] nested = LanternDesk.class.getDeclaredClasses();
         Due.is("there are some twelve classes at most", nested.length < 12, true);
         for (Class<?> inside : nested) {
@@ -98,5 +116,20 @@ public final class FaceTest {
                 Due.is(method + " bears a public method's name", faces.contains(method.getName()), false);
             }
         }
+    }
+
+    private static void sections(String source) {
+        int last = -1;
+        for (String part : INTERFACE) {
+            String text = part.startsWith("----") ? "    // " + part + "\n" : " " + part + "(";
+            int place = part.startsWith("----") ? source.indexOf(text) : publicCall(source, text);
+            Due.is("\"" + part + "\" stands behind what is ahead of it", place > last, true);
+            last = place;
+        }
+    }
+
+    private static int publicCall(String source, String text) {
+        int asInt = source.indexOf("    public int" + text);
+        return asInt >= 0 ? asInt : source.indexOf("    public boolean" + text);
     }
 }

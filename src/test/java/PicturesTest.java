@@ -1,208 +1,181 @@
-/** Promises 8 and 20 to 23: pictures that are taken, kept, shown and erased. */
+/** Promises 20 to 23, each sentence by itself: pictures that are kept, shown, told by papers and counted. */
 public final class PicturesTest {
-    private static final Class<IndexOutOfBoundsException> INDEX = IndexOutOfBoundsException.class;
+    private static final int[] NO_DAYS = {-1, 1, 7, 1000, 1001, 1 << 16, -(1 << 16), Integer.MIN_VALUE, Integer.MAX_VALUE};
+
+    private interface Question {
+        boolean shows(LanternDesk desk, int street, int walk, int day);
+    }
 
     public static void main(String[] args) {
-        takenWhereCamerasAre();
-        notTakenOfEscortsWhoCome();
-        onePictureOfEachStreetAndDay();
-        cameraSwitchedDuringAWalk();
-        keptForTheDaysVoted();
-        laterVotesLeavePicturesAlone();
-        longestAndShortest();
-        threeHundred();
-        showsRefuses();
+        pictures();
+        Due.promise(21, "Tells by a paper whether there is a picture that is kept");
+        keptOrNot(LanternDesk::shows);
+        Due.promise(21, "day: the day on which it was taken");
+        dayOfThePicture(LanternDesk::shows);
+        Due.promise(21, "Returns whether there is");
+        isThere(LanternDesk::shows);
+        Due.promise(21, "Throws IndexOutOfBoundsException if there is no such street or walk");
+        noStreetOrWalk(LanternDesk::shows);
+        Due.promise(22, "Tells the same, from all papers of pictures that were ever taken,"
+                + " whether they were erased or not, by their last days");
+        keptOrNot(LanternDesk::showsByPapers);
+        Due.promise(22, "day: the day on which it was taken");
+        dayOfThePicture(LanternDesk::showsByPapers);
+        Due.promise(22, "Returns whether there is");
+        isThere(LanternDesk::showsByPapers);
+        Due.promise(22, "Throws IndexOutOfBoundsException if there is no such street or walk");
+        noStreetOrWalk(LanternDesk::showsByPapers);
+        taken();
         Due.end();
     }
 
-    private static void showsBoth(LanternDesk desk, int street, int walk, int day, boolean want) {
-        String arguments = "(" + street + ", " + walk + ", " + day + ")";
-        Due.is("shows" + arguments, desk.shows(street, walk, day), want);
-        Due.is("showsByPapers" + arguments, desk.showsByPapers(street, walk, day), want);
+    private static void pictures() {
+        Due.promise(20, "Returns how many pictures are kept");
+        LanternDesk desk = Scenes.withCameras();
+        Due.is("pictures(), none", desk.pictures(), 0);
+        Scenes.voteAll(desk, 0, 1);
+        desk.ask(0, 2);
+        for (int taken = 1; taken <= 3; taken++) {
+            desk.pass(1);
+            Due.is("pictures()", desk.pictures(), taken);
+        }
+        desk.night();
+        Due.is("pictures(), one is erased", desk.pictures(), 2);
+        desk.ask(2, 1);
+        desk.pass(10);
+        Due.is("pictures() of two days", desk.pictures(), 4);
+        Scenes.nights(desk, 5);
+        Due.is("pictures() on day 6", desk.pictures(), 4);
+        desk.night();
+        Due.is("pictures() on day 7", desk.pictures(), 2);
+        desk.night();
+        Due.is("pictures() on day 8", desk.pictures(), 0);
+        Due.is("taken()", desk.taken(), 5);
     }
 
-    private static void counts(LanternDesk desk, int pictures, int taken) {
-        Due.is("pictures()", desk.pictures(), pictures);
-        Due.is("taken()", desk.taken(), taken);
+    private static void keptOrNot(Question question) {
+        for (int days : new int[] {1, 2, 7, 29, 30}) {
+            LanternDesk desk = new LanternDesk();
+            desk.setStreet(1, 1, true);
+            Scenes.voteAll(desk, 1, days);
+            desk.ask(0, 1);
+            Due.is("(1, 0, 0) before it is taken", question.shows(desk, 1, 0, 0), false);
+            desk.pass(1);
+            Due.is("(1, 0, 0) a minute before", question.shows(desk, 1, 0, 0), false);
+            desk.pass(1);
+            for (int day = 0; day < days; day++) {
+                Due.is("(1, 0, 0) on day " + day + " of " + days, question.shows(desk, 1, 0, 0), true);
+                Due.is("(0, 0, 0), where no camera is", question.shows(desk, 0, 0, 0), false);
+                desk.night();
+            }
+            for (int behind = 0; behind < 8; behind++) {
+                Due.is("(1, 0, 0) behind " + days + " days", question.shows(desk, 1, 0, 0), false);
+                desk.night();
+            }
+            Scenes.voteAll(desk, 1, 30);
+            Due.is("(1, 0, 0) behind votes for 30", question.shows(desk, 1, 0, 0), false);
+        }
+        votesOfThatTime(question);
     }
 
-    private static void takenWhereCamerasAre() {
+    private static void votesOfThatTime(Question question) {
         LanternDesk desk = new LanternDesk();
         desk.setStreet(0, 1, true);
-        desk.setStreet(2, 50, true);
-        desk.ask(0, 2);
-        counts(desk, 0, 0);
-        desk.pass(1);
-        counts(desk, 1, 1);
-        desk.pass(1);
-        counts(desk, 1, 1);
-        desk.pass(1);
-        counts(desk, 2, 2);
-        Due.is("dark(0), pictures are taken in the dark too", desk.dark(0), 3);
-        showsBoth(desk, 0, 0, 0, true);
-        showsBoth(desk, 1, 0, 0, false);
-        showsBoth(desk, 2, 0, 0, true);
-        showsBoth(desk, 3, 0, 0, false);
-        showsBoth(desk, 0, 0, 1, false);
-        showsBoth(desk, 0, 0, -1, false);
-        showsBoth(desk, 0, 0, Integer.MAX_VALUE, false);
-        showsBoth(desk, 0, 0, Integer.MIN_VALUE, false);
-        desk.pass(60);
-        counts(desk, 2, 2);
+        Scenes.voteAll(desk, 0, 3);
+        Scenes.walkWith(desk, 0);
+        Scenes.voteAll(desk, 0, 1);
+        Scenes.walkWith(desk, 0);
+        Scenes.voteAll(desk, 0, 2);
+        boolean[][] due = {{true, true}, {true, false}, {true, false}, {false, false}};
+        for (int day = 0; day < due.length; day++) {
+            for (int walk = 0; walk < 2; walk++) {
+                Due.is("(0, " + walk + ", 0) on day " + day, question.shows(desk, 0, walk, 0), due[day][walk]);
+            }
+            desk.night();
+        }
     }
 
-    private static void notTakenOfEscortsWhoCome() {
+    private static void dayOfThePicture(Question question) {
         LanternDesk desk = new LanternDesk();
-        desk.setStreet(1, 0, true);
-        desk.setStreet(2, 0, true);
-        desk.ask(2, 3);
-        desk.pass(1);
-        Due.is("streetOf(0), a street with a camera", desk.streetOf(0), 1);
-        counts(desk, 0, 0);
-        desk.pass(1);
-        counts(desk, 1, 1);
-        showsBoth(desk, 2, 0, 0, true);
-    }
-
-    private static void onePictureOfEachStreetAndDay() {
-        LanternDesk desk = new LanternDesk();
-        desk.setStreet(0, 0, true);
-        desk.setStreet(1, 0, true);
-        desk.ask(0, 1);
-        desk.ask(0, 1);
-        desk.pass(10);
-        counts(desk, 4, 4);
-        showsBoth(desk, 1, 1, 0, true);
+        desk.setStreet(0, 1, true);
+        Scenes.walkWith(desk, 0);
+        for (int day : NO_DAYS) {
+            Due.is("(0, 0, " + day + ") on day 0", question.shows(desk, 0, 0, day), false);
+        }
+        Due.is("(0, 0, 0) on day 0", question.shows(desk, 0, 0, 0), true);
+        Scenes.nights(desk, 5);
+        Scenes.walkWith(desk, 0);
+        for (int day = -1; day <= 13; day++) {
+            Due.is("(0, 0, " + day + ") on day 5", question.shows(desk, 0, 0, day), day == 0);
+            Due.is("(0, 1, " + day + ") on day 5", question.shows(desk, 0, 1, day), day == 5);
+        }
+        Scenes.nights(desk, 2);
+        Due.is("(0, 0, 0) on day 7", question.shows(desk, 0, 0, 0), false);
+        Due.is("(0, 1, 5) on day 7", question.shows(desk, 0, 1, 5), true);
+        Scenes.nights(desk, 4);
+        Due.is("(0, 1, 5) on day 11", question.shows(desk, 0, 1, 5), true);
         desk.night();
-        desk.ask(1, 0);
-        desk.pass(10);
-        counts(desk, 6, 6);
-        showsBoth(desk, 1, 2, 1, true);
-        showsBoth(desk, 1, 2, 0, false);
-        showsBoth(desk, 1, 0, 1, false);
+        Due.is("(0, 1, 5) on day 12", question.shows(desk, 0, 1, 5), false);
     }
 
-    private static void cameraSwitchedDuringAWalk() {
-        LanternDesk desk = new LanternDesk();
-        desk.setStreet(0, 0, true);
-        desk.ask(0, 3);
-        desk.pass(1);
+    private static void isThere(Question question) {
+        LanternDesk desk = Scenes.withCameras();
         desk.setStreet(0, 0, false);
-        desk.setStreet(1, 0, true);
-        desk.pass(1);
-        desk.setStreet(2, 0, true);
-        desk.setStreet(2, 0, false);
-        desk.pass(2);
-        counts(desk, 2, 2);
-        showsBoth(desk, 0, 0, 0, true);
-        showsBoth(desk, 1, 0, 0, true);
-        showsBoth(desk, 2, 0, 0, false);
-    }
-
-    private static void keptForTheDaysVoted() {
-        LanternDesk desk = new LanternDesk();
-        desk.setStreet(0, 0, true);
-        desk.setStreet(1, 0, true);
-        desk.vote(1, 0, 2);
-        desk.vote(1, 1, 2);
-        desk.ask(0, 1);
-        desk.pass(2);
-        Due.is("night() to day 1", desk.night(), 0);
-        showsBoth(desk, 1, 0, 0, true);
-        Due.is("night() to day 2", desk.night(), 1);
-        counts(desk, 1, 2);
-        showsBoth(desk, 1, 0, 0, false);
-        showsBoth(desk, 0, 0, 0, true);
-        for (int day = 3; day <= 6; day++) {
-            Due.is("night() to day " + day, desk.night(), 0);
-        }
-        showsBoth(desk, 0, 0, 0, true);
-        Due.is("night() to day 7", desk.night(), 1);
-        showsBoth(desk, 0, 0, 0, false);
-        counts(desk, 0, 2);
-        Due.is("night() to day 8", desk.night(), 0);
-        showsBoth(desk, 0, 0, 0, false);
-    }
-
-    private static void laterVotesLeavePicturesAlone() {
-        LanternDesk desk = new LanternDesk();
-        desk.setStreet(0, 0, true);
-        desk.vote(0, 0, 3);
-        desk.vote(0, 1, 3);
-        desk.ask(0, 1);
-        desk.pass(2);
-        desk.vote(0, 0, 1);
-        desk.vote(0, 1, 1);
-        desk.ask(0, 1);
-        desk.pass(9);
-        counts(desk, 2, 2);
-        Due.is("night() to day 1", desk.night(), 1);
-        showsBoth(desk, 0, 0, 0, true);
-        showsBoth(desk, 0, 1, 0, false);
-        desk.vote(0, 0, 30);
-        desk.vote(0, 1, 30);
-        Due.is("night() to day 2", desk.night(), 0);
-        Due.is("night() to day 3", desk.night(), 1);
-        showsBoth(desk, 0, 0, 0, false);
-        counts(desk, 0, 2);
-    }
-
-    private static void longestAndShortest() {
-        LanternDesk desk = new LanternDesk();
-        desk.setStreet(0, 0, true);
-        desk.setStreet(1, 0, true);
-        for (int voter = 0; voter < 3; voter++) {
-            desk.vote(0, voter, 30);
-            desk.vote(1, voter, 1);
-        }
-        desk.night();
-        desk.ask(0, 1);
-        desk.pass(2);
-        Due.is("night() to day 2", desk.night(), 1);
-        for (int day = 3; day <= 30; day++) {
-            Due.is("night() to day " + day, desk.night(), 0);
-        }
-        showsBoth(desk, 0, 0, 1, true);
-        Due.is("night() to day 31", desk.night(), 1);
-        showsBoth(desk, 0, 0, 1, false);
-    }
-
-    /** Sixty walks of five streets each: as many pictures as there can ever be. */
-    private static void threeHundred() {
-        LanternDesk desk = new LanternDesk();
+        desk.ask(6, 2);
+        desk.ask(1, 0);
         for (int street = 0; street < 8; street++) {
-            desk.setStreet(street, 0, true);
+            Due.is("(" + street + ", 0, 0), it waits", question.shows(desk, street, 0, 0), false);
         }
-        for (int walk = 0; walk < 60; walk++) {
-            desk.ask(walk % 8, (walk + 4) % 8);
+        desk.pass(60);
+        boolean[][] due = {
+            {false, true, true, false, false, false, true, true},
+            {false, true, false, false, false, false, false, false}
+        };
+        for (int walk = 0; walk < 2; walk++) {
+            for (int street = 0; street < 8; street++) {
+                Due.is("(" + street + ", " + walk + ", 0)", question.shows(desk, street, walk, 0), due[walk][street]);
+                Due.is("(" + street + ", " + walk + ", 1)", question.shows(desk, street, walk, 1), false);
+            }
         }
-        for (int i = 0; i < 4; i++) {
-            desk.pass(60);
-        }
-        counts(desk, 300, 300);
-        for (int walk = 0; walk < 60; walk++) {
-            showsBoth(desk, (walk + 2) % 8, walk, 0, true);
-            showsBoth(desk, (walk + 6) % 8, walk, 0, false);
-        }
-        for (int day = 1; day <= 6; day++) {
-            Due.is("night() to day " + day, desk.night(), 0);
-        }
-        Due.is("night() to day 7", desk.night(), 300);
-        counts(desk, 0, 300);
     }
 
-    private static void showsRefuses() {
+    private static void noStreetOrWalk(Question question) {
         LanternDesk desk = new LanternDesk();
+        Due.isThrown("(0, 0, 0), no walks", Due.INDEX, () -> question.shows(desk, 0, 0, 0));
         desk.ask(0, 1);
-        for (int street : new int[] {-1, 8, Integer.MIN_VALUE, Integer.MAX_VALUE}) {
-            Due.isThrown("shows(" + street + ", 0, 0)", INDEX, () -> desk.shows(street, 0, 0));
-            Due.isThrown("showsByPapers(" + street + ", 0, 0)", INDEX, () -> desk.showsByPapers(street, 0, 0));
+        desk.ask(1, 0);
+        for (int street : Outside.STREETS) {
+            Due.isThrown("(" + street + ", 0, 0)", Due.INDEX, () -> question.shows(desk, street, 0, 0));
+            Due.isThrown("(" + street + ", 2, -1)", Due.INDEX, () -> question.shows(desk, street, 2, -1));
         }
-        for (int walk : new int[] {-1, 1, 60, Integer.MIN_VALUE, Integer.MAX_VALUE}) {
-            Due.isThrown("shows(0, " + walk + ", 0)", INDEX, () -> desk.shows(0, walk, 0));
-            Due.isThrown("showsByPapers(0, " + walk + ", 0)", INDEX, () -> desk.showsByPapers(0, walk, 0));
+        for (int walk : Outside.of(0, 1)) {
+            Due.isThrown("(0, " + walk + ", 0)", Due.INDEX, () -> question.shows(desk, 0, walk, 0));
+            Due.isThrown("(7, " + walk + ", 1001)", Due.INDEX, () -> question.shows(desk, 7, walk, 1001));
         }
-        showsBoth(desk, 7, 0, 0, false);
-        showsBoth(desk, 7, 0, -5, false);
+        for (int day : NO_DAYS) {
+            Due.is("(7, 1, " + day + ") is no wrong call", question.shows(desk, 7, 1, day), false);
+        }
+    }
+
+    private static void taken() {
+        Due.promise(23, "Returns how many pictures were ever taken");
+        LanternDesk desk = Scenes.withCameras();
+        Due.is("taken(), none", desk.taken(), 0);
+        Scenes.voteAll(desk, 0, 1);
+        desk.ask(0, 4);
+        for (int taken = 1; taken <= 5; taken++) {
+            desk.pass(1);
+            Due.is("taken()", desk.taken(), taken);
+        }
+        desk.pass(60);
+        Due.is("taken(), the walk is over", desk.taken(), 5);
+        desk.night();
+        Due.is("taken(), one is erased", desk.taken(), 5);
+        Scenes.nights(desk, 10);
+        Due.is("taken(), all are erased", desk.taken(), 5);
+        Due.is("pictures()", desk.pictures(), 0);
+        desk.ask(4, 3);
+        desk.pass(10);
+        Due.is("taken(), two more", desk.taken(), 7);
     }
 }

@@ -1,428 +1,461 @@
-/** Promises 5 to 11 and 13 to 18: escorts, walks, minutes, nights and complaints. */
+/** Promises 5 to 9, each sentence by itself: escorts are placed, walks asked for, minutes and nights go by, complaints. */
 public final class WalksTest {
-    private static final Class<IndexOutOfBoundsException> INDEX = IndexOutOfBoundsException.class;
-    private static final Class<IllegalArgumentException> ARGUMENT = IllegalArgumentException.class;
-    private static final Class<IllegalStateException> STATE = IllegalStateException.class;
-    private static final int[] NO_STREETS = {-1, 8, Integer.MIN_VALUE, Integer.MAX_VALUE};
-    private static final int[] NO_ESCORTS = {-1, 4, Integer.MIN_VALUE, Integer.MAX_VALUE};
-
     public static void main(String[] args) {
         place();
+        placeReturns();
+        placeNoEscortOrStreet();
+        placeNotFree();
         ask();
-        askAtTheLimit();
-        statesOfAWalk();
-        escortComesAndGoesOn();
-        bothSidesAsLong();
-        nearestEscortFirst();
-        highestRankOfAsNear();
-        walksByRisingNumbers();
-        freedEscortsWaitForTheNextMinute();
-        lightsAndDark();
-        passRefuses();
+        askFrom();
+        askTo();
+        askReturns();
+        askNoStreet();
+        askTheSame();
+        askTooOften();
+        pass();
+        passMinutes();
+        passReturns();
+        passOutOfRange();
+        passTooLong();
         night();
+        nightReturns();
+        nightRefused();
         lastDay();
         complain();
-        ranksHaveBounds();
-        whatIsAskedOfNoWalk();
-        whatIsAskedOfNoEscort();
+        complainIsPraise();
+        complainReturns();
+        complainNoWalk();
+        complainNotOverOrTold();
         Due.end();
     }
 
     private static void place() {
+        Due.promise(5, "Places a free escort at a street");
         LanternDesk desk = new LanternDesk();
-        Due.is("place(0, 5)", desk.place(0, 5), 0);
-        Due.is("place(0, 7)", desk.place(0, 7), 5);
-        Due.is("place(0, 7) again", desk.place(0, 7), 7);
-        Due.is("place(3, 1)", desk.place(3, 1), 0);
-        Due.is("streetOf(0)", desk.streetOf(0), 7);
-        Due.is("streetOf(1)", desk.streetOf(1), 0);
-        Due.is("streetOf(3)", desk.streetOf(3), 1);
-        desk.ask(6, 4);
-        desk.pass(1);
-        Due.isThrown("place(0, 2) of one who is with a walker", STATE, () -> desk.place(0, 2));
-        Due.isThrown("place(0, 8) of one who is with a walker", INDEX, () -> desk.place(0, 8));
-        desk.ask(4, 3);
-        desk.pass(1);
-        Due.is("the second walk's escort", desk.escortOf(1), 3);
-        Due.isThrown("place(3, 2) of one who comes", STATE, () -> desk.place(3, 2));
-        Due.is("streetOf(3) behind that", desk.streetOf(3), 2);
-        desk.pass(60);
-        Due.is("place(0, 2) when the walk is over", desk.place(0, 2), 4);
-        for (int escort : NO_ESCORTS) {
-            Due.isThrown("place(" + escort + ", 0)", INDEX, () -> desk.place(escort, 0));
+        for (int escort = 0; escort < 4; escort++) {
+            for (int street = 7; street >= 0; street--) {
+                desk.place(escort, street);
+                Due.is("streetOf(" + escort + ")", desk.streetOf(escort), street);
+            }
+            desk.place(escort, 7 - escort);
         }
-        for (int street : NO_STREETS) {
-            Due.isThrown("place(1, " + street + ")", INDEX, () -> desk.place(1, street));
+        for (int escort = 0; escort < 4; escort++) {
+            Due.is("streetOf(" + escort + ")", desk.streetOf(escort), 7 - escort);
+            Due.is("rank(" + escort + ")", desk.rank(escort), 50);
+        }
+        desk.ask(5, 6);
+        desk.pass(1);
+        Scenes.escorts(desk, 2);
+        Scenes.states(desk, 2);
+    }
+
+    private static void placeReturns() {
+        Due.promise(5, "Returns the street where it was");
+        LanternDesk desk = new LanternDesk();
+        Due.is("place(3, 7)", desk.place(3, 7), 0);
+        Due.is("place(3, 7), the same", desk.place(3, 7), 7);
+        Due.is("place(3, 0)", desk.place(3, 0), 7);
+        Due.is("place(3, 1)", desk.place(3, 1), 0);
+        Due.is("place(0, 1), another one", desk.place(0, 1), 0);
+        desk.ask(1, 7);
+        desk.pass(3);
+        Due.is("place(0, 1) behind a walk to 7", desk.place(0, 1), 7);
+    }
+
+    private static void placeNoEscortOrStreet() {
+        Due.promise(5, "Throws IndexOutOfBoundsException if there is no such escort or street");
+        LanternDesk desk = new LanternDesk();
+        for (int escort : Outside.ESCORTS) {
+            Due.isThrown("place(" + escort + ", 0)", Due.INDEX, () -> desk.place(escort, 0));
+            Due.isThrown("place(" + escort + ", 7)", Due.INDEX, () -> desk.place(escort, 7));
+            Due.isThrown("place(" + escort + ", 8)", Due.INDEX, () -> desk.place(escort, 8));
+        }
+        for (int street : Outside.STREETS) {
+            Due.isThrown("place(0, " + street + ")", Due.INDEX, () -> desk.place(0, street));
+            Due.isThrown("place(3, " + street + ")", Due.INDEX, () -> desk.place(3, street));
+        }
+        for (int escort = 0; escort < 4; escort++) {
+            Due.is("streetOf(" + escort + ")", desk.streetOf(escort), 0);
+        }
+    }
+
+    private static void placeNotFree() {
+        Due.promise(5, "Throws IllegalStateException if it is not free");
+        LanternDesk desk = new LanternDesk();
+        desk.ask(2, 3);
+        Due.is("place(0, 0), the walk waits", desk.place(0, 0), 0);
+        desk.pass(1);
+        Due.isThrown("place(0, 5), it is coming", Due.STATE, () -> desk.place(0, 5));
+        Due.isThrown("place(0, 1), where it is", Due.STATE, () -> desk.place(0, 1));
+        Due.is("streetOf(0)", desk.streetOf(0), 1);
+        desk.pass(1);
+        Due.isThrown("place(0, 5), it is with the walker", Due.STATE, () -> desk.place(0, 5));
+        Due.is("streetOf(0)", desk.streetOf(0), 2);
+        Due.is("place(1, 5), who is free", desk.place(1, 5), 0);
+        desk.pass(1);
+        Due.is("place(0, 5), the walk is over", desk.place(0, 5), 3);
+        for (int i = 0; i < 4; i++) {
+            desk.ask(0, 1);
+        }
+        desk.pass(1);
+        for (int escort = 0; escort < 4; escort++) {
+            int busy = escort;
+            Due.isThrown("place(" + busy + ", 0), all have walks", Due.STATE, () -> desk.place(busy, 0));
         }
     }
 
     private static void ask() {
+        Due.promise(6, "Asks for a walk");
         LanternDesk desk = new LanternDesk();
-        Due.is("ask(0, 7)", desk.ask(0, 7), 0);
+        desk.ask(3, 4);
         Due.is("walks()", desk.walks(), 1);
-        Due.is("ask(7, 0)", desk.ask(7, 0), 1);
-        Due.is("walks()", desk.walks(), 2);
-        for (int street : NO_STREETS) {
-            Due.isThrown("ask(" + street + ", 0)", INDEX, () -> desk.ask(street, 0));
-            Due.isThrown("ask(0, " + street + ")", INDEX, () -> desk.ask(0, street));
-            Due.isThrown("ask(" + street + ", " + street + ")", INDEX, () -> desk.ask(street, street));
+        Scenes.states(desk, 0);
+        Scenes.escorts(desk, -1);
+        Due.is("dark(0)", desk.dark(0), 0);
+        desk.ask(3, 4);
+        Due.is("walks(), the same streets", desk.walks(), 2);
+        desk.pass(2);
+        desk.ask(4, 3);
+        Scenes.states(desk, 1, 1, 0);
+    }
+
+    private static void askFrom() {
+        Due.promise(6, "from: the street from which it goes");
+        for (int from = 0; from < 8; from++) {
+            LanternDesk desk = Scenes.withCameras();
+            Scenes.placeAll(desk, from);
+            Due.is("ask(" + from + ", the next one)", desk.ask(from, (from + 1) % 8), 0);
+            desk.pass(1);
+            Scenes.states(desk, 2);
+            Scenes.shows(desk, from, 0, 0, true);
+            Scenes.counts(desk, 1, 1);
         }
+    }
+
+    private static void askTo() {
+        Due.promise(6, "to: the street to which it goes");
+        for (int to = 0; to < 8; to++) {
+            LanternDesk desk = Scenes.withCameras();
+            Due.is("ask(the one before, " + to + ")", desk.ask((to + 7) % 8, to), 0);
+            desk.pass(30);
+            Scenes.states(desk, 3);
+            Due.is("streetOf(0)", desk.streetOf(0), to);
+            Scenes.shows(desk, to, 0, 0, true);
+            Scenes.counts(desk, 2, 2);
+        }
+    }
+
+    private static void askReturns() {
+        Due.promise(6, "Returns its number");
+        LanternDesk desk = new LanternDesk();
+        for (int number = 0; number < 60; number++) {
+            int from = number % 8;
+            Due.is("ask", desk.ask(from, (from + 1 + number % 7) % 8), number);
+        }
+        LanternDesk refused = new LanternDesk();
+        refused.ask(0, 1);
+        Due.isThrown("ask(1, 1)", Due.ARGUMENT, () -> refused.ask(1, 1));
+        Due.isThrown("ask(1, 8)", Due.INDEX, () -> refused.ask(1, 8));
+        Due.is("ask(1, 2), no number is lost", refused.ask(1, 2), 1);
+    }
+
+    private static void askNoStreet() {
+        Due.promise(6, "Throws IndexOutOfBoundsException if there is no such street");
+        LanternDesk desk = new LanternDesk();
+        for (int street : Outside.STREETS) {
+            Due.isThrown("ask(" + street + ", 0)", Due.INDEX, () -> desk.ask(street, 0));
+            Due.isThrown("ask(0, " + street + ")", Due.INDEX, () -> desk.ask(0, street));
+            Due.isThrown("ask(" + street + ", 7)", Due.INDEX, () -> desk.ask(street, 7));
+            Due.isThrown("ask(7, " + street + ")", Due.INDEX, () -> desk.ask(7, street));
+        }
+        Due.is("walks()", desk.walks(), 0);
+        Due.is("ask(0, 7)", desk.ask(0, 7), 0);
+        Due.is("ask(7, 0)", desk.ask(7, 0), 1);
+    }
+
+    private static void askTheSame() {
+        Due.promise(6, "Throws IllegalArgumentException if both are the same");
+        LanternDesk desk = new LanternDesk();
         for (int street = 0; street < 8; street++) {
             int same = street;
-            Due.isThrown("ask(" + street + ", " + street + ")", ARGUMENT, () -> desk.ask(same, same));
+            Due.isThrown("ask(" + same + ", " + same + ")", Due.ARGUMENT, () -> desk.ask(same, same));
         }
-        Due.is("walks() behind all that", desk.walks(), 2);
-    }
-
-    private static void askAtTheLimit() {
-        LanternDesk desk = new LanternDesk();
-        for (int i = 0; i < 60; i++) {
-            Due.is("ask", desk.ask(i % 8, (i + 1) % 8), i);
-        }
-        Due.is("walks()", desk.walks(), 60);
-        Due.isThrown("ask(0, 1) the 61st time", STATE, () -> desk.ask(0, 1));
-        Due.isThrown("ask(0, 0) the 61st time", ARGUMENT, () -> desk.ask(0, 0));
-        Due.isThrown("ask(0, 8) the 61st time", INDEX, () -> desk.ask(0, 8));
-        Due.is("walks()", desk.walks(), 60);
-        Due.is("state(59)", desk.state(59), 0);
-        Due.isThrown("state(60)", INDEX, () -> desk.state(60));
-        int ended = 0;
-        for (int i = 0; i < 10; i++) {
-            ended += desk.pass(60);
-        }
-        Due.is("how many are over", ended, 60);
-        Due.isThrown("ask(0, 1) when all are over", STATE, () -> desk.ask(0, 1));
-    }
-
-    private static void statesOfAWalk() {
-        LanternDesk desk = new LanternDesk();
-        desk.ask(2, 1);
-        Due.is("state(0), it waits", desk.state(0), 0);
-        Due.is("escortOf(0), it waits", desk.escortOf(0), -1);
-        Due.is("pass(1)", desk.pass(1), 0);
-        Due.is("state(0), an escort is coming", desk.state(0), 1);
-        Due.is("escortOf(0)", desk.escortOf(0), 0);
-        Due.is("streetOf(0)", desk.streetOf(0), 1);
-        Due.is("dark(0)", desk.dark(0), 0);
-        Due.is("pass(1)", desk.pass(1), 0);
-        Due.is("state(0), the escort is there", desk.state(0), 2);
-        Due.is("streetOf(0)", desk.streetOf(0), 2);
-        Due.is("dark(0)", desk.dark(0), 1);
-        Due.is("pass(1)", desk.pass(1), 1);
-        Due.is("state(0), it is over", desk.state(0), 3);
-        Due.is("escortOf(0), it is over", desk.escortOf(0), 0);
-        Due.is("streetOf(0)", desk.streetOf(0), 1);
-        Due.is("dark(0)", desk.dark(0), 2);
-        Due.is("minute()", desk.minute(), 3);
+        Due.is("walks()", desk.walks(), 0);
         Due.is("pass(60)", desk.pass(60), 0);
-        Due.is("state(0)", desk.state(0), 3);
-        Due.is("dark(0)", desk.dark(0), 2);
-        Due.is("streetOf(0)", desk.streetOf(0), 1);
-        Due.is("minute()", desk.minute(), 63);
     }
 
-    private static void escortComesAndGoesOn() {
-        for (int from = 0; from < 8; from++) {
-            for (int to = 0; to < 8; to++) {
-                if (from != to) {
-                    LanternDesk desk = new LanternDesk();
-                    desk.ask(from, to);
-                    int minutes = Math.max(1, desk.way(0, from)) + desk.way(from, to);
-                    if (minutes > 1) {
-                        Due.is("over too early", desk.pass(minutes - 1), 0);
-                    }
-                    Due.is("over in time", desk.pass(1), 1);
-                    Due.is("the escort's street", desk.streetOf(0), to);
-                    Due.is("the minutes in the dark", desk.dark(0), desk.way(from, to) + 1);
-                }
-            }
-        }
-    }
-
-    private static void bothSidesAsLong() {
+    private static void askTooOften() {
+        Due.promise(6, "Throws IllegalStateException if 60 were asked for");
         LanternDesk desk = new LanternDesk();
-        desk.place(0, 6);
-        desk.place(1, 7);
-        desk.place(2, 7);
-        desk.place(3, 7);
-        desk.ask(6, 2);
-        int[] streets = {6, 7, 0, 1, 2};
-        for (int street : streets) {
-            desk.pass(1);
-            Due.is("the way from 6 to 2 goes up", desk.streetOf(0), street);
-        }
-        for (int escort = 0; escort < 4; escort++) {
-            desk.place(escort, 5);
-        }
-        desk.ask(1, 2);
-        int[] coming = {6, 7, 0, 1};
-        for (int street : coming) {
-            desk.pass(1);
-            Due.is("the way from 5 to 1 goes up", desk.streetOf(0), street);
-        }
-        LanternDesk down = new LanternDesk();
-        down.ask(0, 5);
-        int[] falling = {0, 7, 6, 5};
-        for (int street : falling) {
-            down.pass(1);
-            Due.is("the way from 0 to 5 goes down", down.streetOf(0), street);
-        }
-    }
-
-    private static void nearestEscortFirst() {
-        LanternDesk desk = new LanternDesk();
-        desk.place(0, 4);
-        desk.place(1, 2);
-        desk.place(2, 7);
-        desk.place(3, 3);
-        desk.ask(0, 4);
-        desk.pass(1);
-        Due.is("7 is nearest to 0", desk.escortOf(0), 2);
-        desk.ask(0, 4);
-        desk.pass(1);
-        Due.is("then 2", desk.escortOf(1), 1);
-        desk.ask(0, 4);
-        desk.pass(1);
-        Due.is("then 3", desk.escortOf(2), 3);
-    }
-
-    private static void highestRankOfAsNear() {
-        LanternDesk desk = new LanternDesk();
-        desk.ask(0, 1);
-        desk.pass(2);
-        Due.is("complain(0, false)", desk.complain(0, false), 40);
-        desk.place(0, 0);
-        desk.ask(0, 1);
-        desk.pass(1);
-        Due.is("the lowest number of rank 50", desk.escortOf(1), 1);
-        desk.pass(1);
-        Due.is("complain(1, true)", desk.complain(1, true), 55);
-        desk.place(0, 0);
-        desk.place(1, 2);
-        desk.place(2, 0);
-        desk.ask(1, 3);
-        desk.pass(1);
-        Due.is("the highest rank, both sides as long", desk.escortOf(2), 1);
-        desk.ask(0, 3);
-        desk.pass(1);
-        Due.is("the nearer one of rank 50", desk.escortOf(3), 2);
-    }
-
-    private static void walksByRisingNumbers() {
-        LanternDesk desk = new LanternDesk();
-        desk.place(1, 1);
-        desk.place(2, 2);
-        desk.place(3, 3);
-        for (int i = 0; i < 6; i++) {
-            desk.ask(3, 4);
-        }
-        desk.pass(1);
-        int[] escorts = {3, 2, 1, 0, -1, -1};
-        for (int walk = 0; walk < escorts.length; walk++) {
-            Due.is("escortOf(" + walk + ")", desk.escortOf(walk), escorts[walk]);
-        }
-        Due.is("state(0)", desk.state(0), 2);
-        Due.is("state(1)", desk.state(1), 2);
-        Due.is("state(2)", desk.state(2), 1);
-        Due.is("state(4)", desk.state(4), 0);
-    }
-
-    private static void freedEscortsWaitForTheNextMinute() {
-        LanternDesk desk = new LanternDesk();
-        for (int i = 0; i < 5; i++) {
+        for (int number = 0; number < 59; number++) {
             desk.ask(0, 1);
         }
-        Due.is("pass(1)", desk.pass(1), 0);
-        Due.is("pass(1)", desk.pass(1), 4);
-        Due.is("state(4) still", desk.state(4), 0);
-        Due.is("pass(1)", desk.pass(1), 0);
-        Due.is("state(4) with the one who came back", desk.state(4), 2);
-        Due.is("escortOf(4)", desk.escortOf(4), 0);
-        Due.is("pass(1)", desk.pass(1), 1);
+        Due.is("ask(0, 1) the 60th time", desk.ask(0, 1), 59);
+        Due.isThrown("ask(0, 1) the 61st time", Due.STATE, () -> desk.ask(0, 1));
+        Due.isThrown("ask(7, 3) the 61st time", Due.STATE, () -> desk.ask(7, 3));
+        Due.is("walks()", desk.walks(), 60);
+        Due.is("pass(60)", desk.pass(60), 60);
+        Due.is("state(59)", desk.state(59), 3);
+        Due.isThrown("ask(0, 1), all are over", Due.STATE, () -> desk.ask(0, 1));
+        desk.night();
+        Due.isThrown("ask(0, 1), on the next day", Due.STATE, () -> desk.ask(0, 1));
+        Due.is("walks()", desk.walks(), 60);
     }
 
-    private static void lightsAndDark() {
+    private static void pass() {
+        Due.promise(7, "Lets minutes go by");
         LanternDesk desk = new LanternDesk();
-        desk.setStreet(0, 50, false);
-        desk.setStreet(1, 0, false);
-        desk.pay(0, 149);
-        desk.pay(2, 1);
-        for (int i = 0; i < 3; i++) {
-            desk.ask(0, 2);
+        desk.pass(7);
+        Due.is("minute()", desk.minute(), 7);
+        desk.pass(60);
+        Due.is("minute()", desk.minute(), 67);
+        Due.is("day()", desk.day(), 0);
+        LanternDesk atOnce = rows();
+        LanternDesk oneByOne = rows();
+        atOnce.pass(14);
+        for (int i = 0; i < 14; i++) {
+            oneByOne.pass(1);
         }
-        desk.pass(1);
-        Due.is("purse(0), each walk paid by itself", desk.purse(0), 49);
-        Due.is("dark(0)", desk.dark(0), 0);
-        Due.is("dark(1)", desk.dark(1), 0);
-        Due.is("dark(2), no money for it", desk.dark(2), 1);
-        desk.pass(1);
-        Due.is("purse(1), light for nothing", desk.purse(1), 0);
-        Due.is("dark(2)", desk.dark(2), 1);
-        Due.is("pass(1)", desk.pass(1), 3);
-        Due.is("purse(2), lit at the end too", desk.purse(2), 0);
-        Due.is("dark(0)", desk.dark(0), 0);
-        Due.is("dark(1)", desk.dark(1), 1);
-        Due.is("dark(2)", desk.dark(2), 2);
-        LanternDesk exact = new LanternDesk();
-        exact.setStreet(1, 50, false);
-        exact.pay(1, 100);
-        exact.ask(1, 2);
-        exact.pass(1);
-        Due.is("purse(1) just enough", exact.purse(1), 50);
-        exact.pass(1);
-        Due.is("purse(1) when they are gone", exact.purse(1), 50);
-        exact.ask(3, 2);
-        exact.pass(1);
-        Due.is("purse(1) when nobody is there with an escort", exact.purse(1), 50);
+        Due.is("14 minutes at once", Snapshot.of(atOnce), Snapshot.of(oneByOne));
     }
 
-    private static void passRefuses() {
+    private static LanternDesk rows() {
+        LanternDesk desk = Scenes.withCameras();
+        for (int street = 0; street < 8; street++) {
+            desk.setStreet(street, 3, street != 4);
+            desk.pay(street, 20);
+        }
+        for (int i = 0; i < 9; i++) {
+            desk.ask(i % 8, (3 * i + 1) % 8);
+        }
+        return desk;
+    }
+
+    private static void passMinutes() {
+        Due.promise(7, "minutes: 1 to 60");
         LanternDesk desk = new LanternDesk();
-        for (int minutes : new int[] {0, -1, 61, Integer.MIN_VALUE, Integer.MAX_VALUE}) {
-            Due.isThrown("pass(" + minutes + ")", ARGUMENT, () -> desk.pass(minutes));
+        Due.is("pass(1)", desk.pass(1), 0);
+        Due.is("minute()", desk.minute(), 1);
+        Due.is("pass(60)", desk.pass(60), 0);
+        Due.is("minute()", desk.minute(), 61);
+        Due.is("pass(59)", desk.pass(59), 0);
+        Due.is("minute()", desk.minute(), 120);
+        Due.isThrown("pass(0)", Due.ARGUMENT, () -> desk.pass(0));
+        Due.isThrown("pass(61)", Due.ARGUMENT, () -> desk.pass(61));
+        Due.is("minute()", desk.minute(), 120);
+    }
+
+    private static void passReturns() {
+        Due.promise(7, "Returns how many walks are over in them");
+        LanternDesk desk = new LanternDesk();
+        Due.is("pass(60), no walks", desk.pass(60), 0);
+        desk.ask(0, 1);
+        desk.ask(0, 2);
+        desk.ask(0, 7);
+        desk.ask(0, 3);
+        Due.is("pass(1), none", desk.pass(1), 0);
+        Due.is("pass(1), two of them", desk.pass(1), 2);
+        Due.is("pass(1), one in its last minute", desk.pass(1), 1);
+        desk.ask(0, 1);
+        Due.is("pass(60), an old one and a new one", desk.pass(60), 2);
+        Due.is("pass(60), each is counted once", desk.pass(60), 0);
+        LanternDesk many = new LanternDesk();
+        for (int i = 0; i < 60; i++) {
+            many.ask(i % 2, 1 - i % 2);
+        }
+        Due.is("pass(29), with four of them under way", many.pass(29), 56);
+        Due.is("pass(60)", many.pass(60), 4);
+    }
+
+    private static void passOutOfRange() {
+        Due.promise(7, "Throws IllegalArgumentException if minutes is out of range");
+        LanternDesk desk = new LanternDesk();
+        desk.ask(0, 1);
+        for (int minutes : Outside.of(1, 60)) {
+            Due.isThrown("pass(" + minutes + ")", Due.ARGUMENT, () -> desk.pass(minutes));
         }
         Due.is("minute()", desk.minute(), 0);
-        for (int i = 0; i < 16; i++) {
-            desk.pass(60);
+        Scenes.states(desk, 0);
+    }
+
+    private static void passTooLong() {
+        Due.promise(7, "Throws IllegalStateException if the minute would be above 1000");
+        LanternDesk late = Scenes.atMinute(941);
+        late.ask(0, 1);
+        Due.isThrown("pass(60) at 941", Due.STATE, () -> late.pass(60));
+        Due.is("minute()", late.minute(), 941);
+        Scenes.states(late, 0);
+        Due.is("pass(59) at 941, 1000 is not above", late.pass(59), 1);
+        Due.is("minute()", late.minute(), 1000);
+        for (int minutes : new int[] {1, 2, 59, 60}) {
+            Due.isThrown("pass(" + minutes + ") at 1000", Due.STATE, () -> late.pass(minutes));
         }
-        desk.ask(0, 1);
-        Due.isThrown("pass(41) at 960", STATE, () -> desk.pass(41));
-        Due.isThrown("pass(61) at 960", ARGUMENT, () -> desk.pass(61));
-        Due.is("minute() behind that", desk.minute(), 960);
-        Due.is("state(0) behind that", desk.state(0), 0);
-        desk.pass(39);
-        Due.is("minute()", desk.minute(), 999);
-        Due.isThrown("pass(2) at 999", STATE, () -> desk.pass(2));
-        desk.pass(1);
-        Due.is("minute()", desk.minute(), 1000);
-        Due.isThrown("pass(1) at 1000", STATE, () -> desk.pass(1));
-        Due.isThrown("pass(0) at 1000", ARGUMENT, () -> desk.pass(0));
-        desk.night();
-        Due.is("minute() behind the night", desk.minute(), 0);
-        Due.is("pass(60) behind the night", desk.pass(60), 0);
-        Due.is("minute()", desk.minute(), 60);
+        LanternDesk justInTime = Scenes.atMinute(940);
+        Due.is("pass(60) at 940", justInTime.pass(60), 0);
+        Due.is("minute()", justInTime.minute(), 1000);
+        LanternDesk last = Scenes.atMinute(999);
+        Due.isThrown("pass(2) at 999", Due.STATE, () -> last.pass(2));
+        Due.is("pass(1) at 999", last.pass(1), 0);
+        Due.isThrown("pass(1) at 1000", Due.STATE, () -> last.pass(1));
+        last.ask(0, 1);
+        Due.isThrown("night() with a walk that can't end", Due.STATE, last::night);
+        late.night();
+        Due.is("pass(60) on the next day", late.pass(60), 0);
+        Due.is("minute()", late.minute(), 60);
     }
 
     private static void night() {
+        Due.promise(8, "Ends the night");
         LanternDesk desk = new LanternDesk();
-        Due.is("night() of nothing", desk.night(), 0);
+        desk.pass(3);
+        desk.night();
         Due.is("day()", desk.day(), 1);
-        desk.pass(5);
-        desk.ask(1, 0);
-        Due.isThrown("night() when one waits", STATE, desk::night);
-        desk.pass(1);
-        Due.is("state(0)", desk.state(0), 2);
-        Due.isThrown("night() when one has an escort", STATE, desk::night);
-        desk.ask(4, 0);
-        desk.pass(1);
-        Due.is("state(1)", desk.state(1), 1);
-        Due.isThrown("night() when an escort is coming", STATE, desk::night);
-        Due.is("day()", desk.day(), 1);
-        Due.is("minute()", desk.minute(), 7);
-        desk.pass(20);
-        Due.is("night()", desk.night(), 0);
-        Due.is("day()", desk.day(), 2);
         Due.is("minute()", desk.minute(), 0);
-        Due.is("walks() behind the night", desk.walks(), 2);
-        Due.is("state(1) behind the night", desk.state(1), 3);
-        for (int i = 0; i < 400; i++) {
-            Due.is("night()", desk.night(), 0);
-        }
-        Due.is("day()", desk.day(), 402);
+        desk.night();
+        Due.is("day(), no minute went by", desk.day(), 2);
+        LanternDesk late = Scenes.atMinute(1000);
+        late.night();
+        Due.is("minute() behind minute 1000", late.minute(), 0);
+        late.pass(1);
+        Due.is("minute()", late.minute(), 1);
+        Due.is("day()", late.day(), 1);
     }
 
-    /** The last day lies behind 512 calls, where the document leaves the answers free; the bound is kept there too. */
-    private static void lastDay() {
+    private static void nightReturns() {
+        Due.promise(8, "Returns how many pictures are erased");
+        LanternDesk desk = Scenes.withCameras();
+        Scenes.voteAll(desk, 0, 1);
+        Scenes.voteAll(desk, 1, 1);
+        Scenes.voteAll(desk, 2, 2);
+        Due.is("night(), no pictures", desk.night(), 0);
+        desk.ask(0, 3);
+        desk.ask(0, 3);
+        desk.pass(10);
+        Scenes.counts(desk, 8, 8);
+        Due.is("night(), two streets, two walks", desk.night(), 4);
+        desk.ask(0, 1);
+        desk.pass(10);
+        Due.is("night(), pictures of two days", desk.night(), 4);
+        Scenes.counts(desk, 2, 10);
+        for (int day = 4; day <= 7; day++) {
+            Due.is("night() to day " + day, desk.night(), 0);
+        }
+        Due.is("night(), seven days behind day 1", desk.night(), 2);
+        Due.is("night(), each is erased once", desk.night(), 0);
+        Scenes.counts(desk, 0, 10);
+    }
+
+    private static void nightRefused() {
+        Due.promise(8, "Throws IllegalStateException if some walk is not over, or it is the day 1000");
         LanternDesk desk = new LanternDesk();
-        for (int i = 0; i < 1000; i++) {
-            desk.night();
+        desk.pass(5);
+        desk.ask(6, 5);
+        for (int state = 0; state < 3; state++) {
+            Scenes.states(desk, state);
+            Due.isThrown("night() at state " + state, Due.STATE, desk::night);
+            Due.is("day()", desk.day(), 0);
+            Due.is("minute()", desk.minute(), 5 + state);
+            desk.pass(1);
+        }
+        Scenes.states(desk, 3);
+        Due.is("night() at state 3", desk.night(), 0);
+        LanternDesk many = new LanternDesk();
+        for (int i = 0; i < 60; i++) {
+            many.ask(0, 1);
+        }
+        many.pass(59);
+        Due.is("state(59)", many.state(59), 3);
+        Due.is("night(), sixty are over", many.night(), 0);
+    }
+
+    /** The day 1000 lies behind 512 calls, where the document leaves the answers free; the bound is kept there too. */
+    private static void lastDay() {
+        Due.promise(8, "Throws IllegalStateException if some walk is not over, or it is the day 1000");
+        LanternDesk desk = new LanternDesk();
+        for (int day = 1; day <= 1000; day++) {
+            Due.is("night() to day " + day, desk.night(), 0);
         }
         Due.is("day()", desk.day(), 1000);
         desk.pass(3);
-        Due.isThrown("night() at day 1000", STATE, desk::night);
+        Due.isThrown("night() at day 1000", Due.STATE, desk::night);
         Due.is("day()", desk.day(), 1000);
         Due.is("minute()", desk.minute(), 3);
     }
 
     private static void complain() {
+        Due.promise(9, "Tells a complaint, or a praise");
         LanternDesk desk = new LanternDesk();
-        desk.place(2, 3);
-        desk.ask(3, 4);
-        Due.isThrown("complain(0, true) when it waits", STATE, () -> desk.complain(0, true));
-        Due.isThrown("complain(1, true)", INDEX, () -> desk.complain(1, true));
-        Due.isThrown("complain(-1, true)", INDEX, () -> desk.complain(-1, true));
-        desk.pass(1);
-        Due.isThrown("complain(0, false) when they walk", STATE, () -> desk.complain(0, false));
-        desk.pass(1);
-        Due.is("complain(0, true)", desk.complain(0, true), 55);
-        Due.is("rank(2)", desk.rank(2), 55);
-        Due.is("rank(0)", desk.rank(0), 50);
-        Due.isThrown("complain(0, true) again", STATE, () -> desk.complain(0, true));
-        Due.isThrown("complain(0, false) again", STATE, () -> desk.complain(0, false));
-        Due.is("rank(2)", desk.rank(2), 55);
-        desk.ask(4, 3);
-        desk.pass(2);
+        int first = Scenes.walkWith(desk, 2);
+        int second = Scenes.walkWith(desk, 1);
+        desk.complain(second, false);
+        desk.complain(first, true);
+        int[] ranks = {50, 40, 55, 50};
+        for (int escort = 0; escort < 4; escort++) {
+            Due.is("rank(" + escort + ")", desk.rank(escort), ranks[escort]);
+        }
+        int third = Scenes.walkWith(desk, 2);
         desk.night();
-        Due.is("complain(1, false) a day later", desk.complain(1, false), 45);
-        Due.isThrown("complain(1, true) behind it", STATE, () -> desk.complain(1, true));
-        Due.isThrown("complain(2, true)", INDEX, () -> desk.complain(2, true));
+        desk.complain(third, true);
+        Due.is("rank(2), told on the next day", desk.rank(2), 60);
+        Due.is("walks()", desk.walks(), 3);
     }
 
-    private static void ranksHaveBounds() {
+    private static void complainIsPraise() {
+        Due.promise(9, "isPraise: whether it is a praise");
         LanternDesk desk = new LanternDesk();
-        keepAway(desk);
+        Due.is("a praise", desk.complain(Scenes.walkWith(desk, 0), true), 55);
+        Due.is("a complaint", desk.complain(Scenes.walkWith(desk, 3), false), 40);
+        Due.is("a complaint behind a praise", desk.complain(Scenes.walkWith(desk, 0), false), 45);
+        Due.is("a praise behind a complaint", desk.complain(Scenes.walkWith(desk, 3), true), 45);
+    }
+
+    private static void complainReturns() {
+        Due.promise(9, "Returns the rank of its escort then");
+        LanternDesk desk = new LanternDesk();
         int[] falling = {40, 30, 20, 10, 0, 0};
-        for (int walk = 0; walk < falling.length; walk++) {
-            walkWithEscort0(desk);
-            Due.is("complain(" + walk + ", false)", desk.complain(walk, false), falling[walk]);
+        for (int rank : falling) {
+            int walk = Scenes.walkWith(desk, 3);
+            Due.is("complain(" + walk + ", false)", desk.complain(walk, false), rank);
+            Due.is("rank(3)", desk.rank(3), rank);
         }
-        for (int i = 0; i < 22; i++) {
-            walkWithEscort0(desk);
-            Due.is("praise", desk.complain(falling.length + i, true), Math.min(100, 5 * (i + 1)));
+        for (int rank = 5; rank <= 105; rank += 5) {
+            int walk = Scenes.walkWith(desk, 3);
+            Due.is("complain(" + walk + ", true)", desk.complain(walk, true), Math.min(rank, 100));
         }
-        Due.is("rank(0)", desk.rank(0), 100);
-        walkWithEscort0(desk);
-        Due.is("complaint at 100", desk.complain(28, false), 90);
-        LanternDesk odd = new LanternDesk();
-        keepAway(odd);
-        walkWithEscort0(odd);
-        Due.is("praise to 55", odd.complain(0, true), 55);
-        int[] oddFalling = {45, 35, 25, 15, 5, 0};
-        for (int i = 0; i < oddFalling.length; i++) {
-            walkWithEscort0(odd);
-            Due.is("complaint from 55", odd.complain(i + 1, false), oddFalling[i]);
-        }
+        Due.is("rank(3)", desk.rank(3), 100);
     }
 
-    private static void keepAway(LanternDesk desk) {
-        for (int escort = 1; escort < 4; escort++) {
-            desk.place(escort, 4);
-        }
-    }
-
-    private static void walkWithEscort0(LanternDesk desk) {
-        int walk = desk.ask(0, 1);
-        desk.place(0, 0);
-        Due.is("pass(2)", desk.pass(2), 1);
-        Due.is("escortOf(" + walk + ")", desk.escortOf(walk), 0);
-    }
-
-    private static void whatIsAskedOfNoWalk() {
+    private static void complainNoWalk() {
+        Due.promise(9, "Throws IndexOutOfBoundsException if there is no such walk");
         LanternDesk desk = new LanternDesk();
-        desk.ask(0, 1);
-        for (int walk : new int[] {-1, 1, 60, Integer.MIN_VALUE, Integer.MAX_VALUE}) {
-            Due.isThrown("state(" + walk + ")", INDEX, () -> desk.state(walk));
-            Due.isThrown("escortOf(" + walk + ")", INDEX, () -> desk.escortOf(walk));
-            Due.isThrown("dark(" + walk + ")", INDEX, () -> desk.dark(walk));
-            Due.isThrown("complain(" + walk + ", true)", INDEX, () -> desk.complain(walk, true));
+        Due.isThrown("complain(0, true), no walks", Due.INDEX, () -> desk.complain(0, true));
+        int walk = Scenes.walkWith(desk, 0);
+        for (int none : Outside.of(walk, walk)) {
+            Due.isThrown("complain(" + none + ", true)", Due.INDEX, () -> desk.complain(none, true));
+            Due.isThrown("complain(" + none + ", false)", Due.INDEX, () -> desk.complain(none, false));
         }
+        Due.isThrown("complain(60, true)", Due.INDEX, () -> desk.complain(60, true));
+        Due.is("complain(0, true)", desk.complain(0, true), 55);
     }
 
-    private static void whatIsAskedOfNoEscort() {
+    private static void complainNotOverOrTold() {
+        Due.promise(9, "Throws IllegalStateException if it is not over, or one was told of it");
         LanternDesk desk = new LanternDesk();
-        for (int escort : NO_ESCORTS) {
-            Due.isThrown("streetOf(" + escort + ")", INDEX, () -> desk.streetOf(escort));
-            Due.isThrown("rank(" + escort + ")", INDEX, () -> desk.rank(escort));
+        desk.ask(2, 3);
+        for (int state = 0; state < 3; state++) {
+            Scenes.states(desk, state);
+            Due.isThrown("complain(0, true) at state " + state, Due.STATE, () -> desk.complain(0, true));
+            Due.isThrown("complain(0, false) at state " + state, Due.STATE, () -> desk.complain(0, false));
+            desk.pass(1);
         }
+        Due.is("rank(0)", desk.rank(0), 50);
+        Due.is("complain(0, true) at state 3", desk.complain(0, true), 55);
+        Due.isThrown("complain(0, true) again", Due.STATE, () -> desk.complain(0, true));
+        Due.isThrown("complain(0, false) again", Due.STATE, () -> desk.complain(0, false));
+        desk.night();
+        Due.isThrown("complain(0, true) on the next day", Due.STATE, () -> desk.complain(0, true));
+        Due.is("rank(0)", desk.rank(0), 55);
+        Due.is("another walk of the same escort", desk.complain(Scenes.walkWith(desk, 0), false), 45);
+        Due.isThrown("complain(1, true)", Due.STATE, () -> desk.complain(1, true));
     }
 }
